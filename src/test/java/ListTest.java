@@ -62,12 +62,16 @@ public final class ListTest {
         String repeat = "GGGCACACACAGGG";
         normalised(repeat, 8, 3, alternatives("C"), "3 GCA G");
         normalised(repeat, 6, 2, alternatives("CACA"), "3 G GCA");
+        normalised(repeat, 8, 3, alternatives("C", "CACAC", "CACACAC"), "3 GCA G GCACA GCACACA");
+        normalised(repeat, 4, 3, alternatives("CGC", "CTC", "CCC"), "5 A G T C");
         normalised(repeat, 4, 4, alternatives("CACACA"), "3 G GCA");
         normalised(repeat, 4, 5, alternatives("CAGAC"), "6 C G");
         normalised(repeat, 3, 5, alternatives("GCACG", "GCACT"), "7 A G T");
         normalised(repeat, 4, 1, alternatives("A"), "4 C A");
         normalised(repeat, 4, 2, alternatives("GA", "TA"), "4 C G T");
         normalised(repeat, 4, 2, alternatives("GA", "TC"), "4 CA GA TC");
+        normalised(repeat, 4, 2, alternatives("GC"), "4 CA GC");
+        normalised(repeat, 4, 2, alternatives("CG", "TC"), "4 CA CG TC");
         normalised(repeat, 4, 2, alternatives("CG", "CTT", "C"), "4 CA CG CTT C");
         normalised(repeat, 4, 3, alternatives("CG", "CATT", "CA"), "5 AC G ATT A");
         normalised(repeat, 4, 4, alternatives("CACC", "CATTA"), "6 CA CC TTA");
@@ -77,6 +81,8 @@ public final class ListTest {
         normalised("AAAAAAAA", 8, 1, alternatives("AA"), "1 A AA");
         normalised("AAAAAAAA", 3, 3, alternatives("AAAAAAAA"), "1 A AAAAAA");
         normalised("AAAAAAAA", 1, 3, alternatives("AA", "AAAA"), "1 AA A AAA");
+        normalised("CATT", 1, 2, alternatives("GA"), "1 C G");
+        normalised("CATT", 1, 3, alternatives("GAT", "TAT"), "1 C G T");
         normalised("CAAAAAAA", 8, 1, alternatives("AA"), "1 C CA");
         normalised("CACACACA", 7, 2, alternatives("CACA"), "1 C CAC");
         // Eight bases stay eight when they only move.
@@ -275,6 +281,8 @@ public final class ListTest {
         Check.put(kit, 30, 1, "C");
         Check.due("20: of quality 0", kit.mean(30, 30), 0);
         Check.due("20: a third as a float", kit.mean(11, 30), (0.125f + 999.875f + 0f) / 3f);
+        kit.remove(3);
+        Check.noSuchElement("20: a removed one", () -> kit.mean(30, 30));
         VariantKit empty = new VariantKit();
         Check.noSuchElement("20: empty", () -> empty.mean(1, 255));
     }

@@ -4,7 +4,7 @@ import java.util.TreeMap;
 
 /** Random runs of calls, on VariantKit and on Model, whose answers and exceptions must be the same. */
 public final class ModelTest {
-    private static final int RUNS = 3000;
+    private static final int RUNS = 1200;
     private static final int CALLS = 250;
 
     interface Answer {

@@ -16,6 +16,7 @@ public final class SplitJoinTest {
         joinOfOthers();
         joinRenumbers();
         joinLengthens();
+        joinOfNormalised();
         joinGenotypes();
         joinInTheList();
         joinRefused();
@@ -208,11 +209,30 @@ public final class SplitJoinTest {
         Check.put(other, 5, 2, "TTTT", "A");
         other.join(0);
         Check.due("12: the first REF is longer", Check.shape(other, 0), "5 ACGT AGT CC TTTTGT");
+        VariantKit four = Check.on(REFERENCE);
+        Check.put(four, 5, 1, "C", "G", "T");
+        Check.put(four, 5, 2, "TC", "CC");
+        four.join(0);
+        Check.due("12: four alleles lengthened", Check.shape(four, 0), "5 AC CC GC TC");
         VariantKit eight = Check.on(REFERENCE);
         Check.put(eight, 5, 1, "C");
         Check.put(eight, 5, 8, "T");
         eight.join(0);
         Check.due("12: eight bases", Check.shape(eight, 0), "5 ACGTACGT CCGTACGT T");
+    }
+
+    /** An allele is the same one however it came to its bases. */
+    private static void joinOfNormalised() {
+        VariantKit kit = Check.on(REFERENCE);
+        Check.put(kit, 3, 3, "GTC");
+        Check.put(kit, 5, 1, "C");
+        Check.due("12: normalised", kit.normalise(0), 1);
+        kit.join(0);
+        Check.due("12: with a normalised one", Check.shape(kit, 0), "5 A C");
+        Check.due("12: with a normalised one", kit.records(), 1);
+        Check.put(kit, 5, 3, "CCG");
+        kit.join(0);
+        Check.due("12: with a longer one", Check.shape(kit, 0), "5 ACG CCG");
     }
 
     /** The joined genotype of sample 0 when its first place has one allele here and another there. */
