@@ -15,6 +15,7 @@ public final class BytesTest {
         type();
         typeRefused();
         read();
+        readAfterWriting();
         readPutsInOrder();
         readRefused();
         readOfWrongBytes();
@@ -135,6 +136,16 @@ public final class BytesTest {
         Check.type(kit, rich);
         Check.due("15: four alleles", kit.read(), 2);
         Check.due("15: four alleles", Check.bytes(kit, 2), rich);
+    }
+
+    /** What was written out before, and was longer, has nothing to do with what is read. */
+    private static void readAfterWriting() {
+        VariantKit kit = Check.on(REFERENCE);
+        Check.put(kit, 9, 8, "TTTTTTTT", "CCCCCCCC", "GGGGGGGG");
+        Check.due("15: a longer one was written", kit.written(0, -1), 74);
+        Check.type(kit, PLAIN);
+        Check.due("15: a shorter one is read", kit.read(), 0);
+        Check.due("15: a shorter one is read", Check.bytes(kit, 0), PLAIN);
     }
 
     private static void readPutsInOrder() {

@@ -24,10 +24,13 @@ public final class ModelTest {
 
     public static void main(String[] args) {
         TreeMap<String, Integer> seen = new TreeMap<>();
-        for (int seed = 0; seed < RUNS; seed++) {
+        // After a first wrong answer the two go on from different states.
+        for (int seed = 0; seed < RUNS && Check.allAsDue(); seed++) {
             new ModelTest(seed, seen).run("seed " + seed + ": ");
         }
-        everyOutcomeWasSeen(seen);
+        if (Check.allAsDue()) {
+            everyOutcomeWasSeen(seen);
+        }
         Check.end();
     }
 
@@ -55,7 +58,7 @@ public final class ModelTest {
             int n = random.nextInt(8) == 0 ? random.nextInt(19) - 1 : 16;
             same(name, "reference", () -> kit.reference(bases, n), () -> model.reference(bases, n));
         }
-        for (int i = 0; i < CALLS; i++) {
+        for (int i = 0; i < CALLS && Check.allAsDue(); i++) {
             step(name);
             if (i % 16 == 0) {
                 sameList(name);
