@@ -48,7 +48,7 @@ final class Check {
         throwing(what, IndexOutOfBoundsException.class, call);
     }
 
-    private static void throwing(String what, Class<?> want, Call call) {
+    static void throwing(String what, Class<?> want, Call call) {
         String got = "nothing";
         try {
             call.run();
@@ -57,6 +57,16 @@ final class Check {
         }
         if (!got.equals(want.getName())) {
             complain(what + " threw " + got + ", due is " + want.getName());
+        }
+    }
+
+    /** Whether a call ends without an exception. */
+    static boolean isDone(Call call) {
+        try {
+            call.run();
+            return true;
+        } catch (IllegalArgumentException | IllegalStateException e) {
+            return false;
         }
     }
 
@@ -84,11 +94,16 @@ final class Check {
     /** A new object with a reference. */
     static VariantKit on(String bases) {
         VariantKit kit = new VariantKit();
+        on(kit, bases);
+        return kit;
+    }
+
+    /** Appends bases of a text to an object's reference. */
+    static void on(VariantKit kit, String bases) {
         for (int i = 0; i < bases.length(); i += 16) {
             String piece = bases.substring(i, Math.min(i + 16, bases.length()));
             kit.reference(packed(piece), piece.length());
         }
-        return kit;
     }
 
     /** Drafts a record with these alternatives, without adding it. */
@@ -114,7 +129,8 @@ final class Check {
 
     static String allele(VariantKit kit, int record, int allele) {
         StringBuilder text = new StringBuilder();
-        for (int i = 0; i < kit.base(record, allele, -1); i++) {
+        int bases = kit.base(record, allele, -1);
+        for (int i = 0; i < bases; i++) {
             text.append("ACGT".charAt(kit.base(record, allele, i)));
         }
         return text.toString();
@@ -124,7 +140,8 @@ final class Check {
     static String shape(VariantKit kit, int record) {
         StringBuilder text = new StringBuilder();
         text.append(kit.about(record, 0));
-        for (int a = 0; a < kit.about(record, 1); a++) {
+        int alleles = kit.about(record, 1);
+        for (int a = 0; a < alleles; a++) {
             text.append(' ').append(allele(kit, record, a));
         }
         return text.toString();
@@ -133,7 +150,8 @@ final class Check {
     /** All bytes of a record, written out, as numbers with a space between. */
     static String bytes(VariantKit kit, int record) {
         List<String> all = new ArrayList<>();
-        for (int i = 0; i < kit.written(record, -1); i++) {
+        int bytes = kit.written(record, -1);
+        for (int i = 0; i < bytes; i++) {
             all.add(String.valueOf(kit.written(record, i)));
         }
         return String.join(" ", all);

@@ -1,18 +1,21 @@
+import java.util.ArrayList;
 import java.util.List;
 import java.util.Random;
 import java.util.TreeMap;
 
 /** Random runs of calls, on VariantKit and on Model, whose answers and exceptions must be the same. */
 public final class ModelTest {
-    private static final int RUNS = 1200;
-    private static final int CALLS = 250;
+    private static final int RUNS = 2400;
+    // An object is good for 512 calls: these, at most 99 of the last step, and 99 that show a record.
+    private static final int CALLS = 300;
 
     interface Answer {
         double get();
     }
 
     private final Random random;
-    private final VariantKit kit = new VariantKit();
+    private final List<Answer> calls = new ArrayList<>();
+    private VariantKit kit = new VariantKit();
     private final Model model = new Model();
     private final TreeMap<String, Integer> seen;
     private String last = "";
@@ -58,13 +61,19 @@ public final class ModelTest {
             int n = random.nextInt(8) == 0 ? random.nextInt(19) - 1 : 16;
             same(name, "reference", () -> kit.reference(bases, n), () -> model.reference(bases, n));
         }
-        for (int i = 0; i < CALLS && Check.allAsDue(); i++) {
+        // Without this, few lists would be full before the calls are used up.
+        for (int i = random.nextInt(3) == 0 ? random.nextInt(30) : 0; i > 0; i--) {
+            drafting(name, 0);
+        }
+        while (calls.size() < CALLS && Check.allAsDue()) {
             step(name);
-            if (i % 16 == 0) {
-                sameList(name);
+            if (random.nextInt(16) == 0 && model.records() > 0) {
+                sameRecord(name, random.nextInt(model.records()));
             }
         }
-        sameList(name);
+        for (int record = 0; record < model.records(); record++) {
+            sameRecord(name, record);
+        }
     }
 
     private long repetitive(int letters) {
@@ -93,6 +102,7 @@ public final class ModelTest {
     private void same(String name, String call, Answer ofKit, Answer ofModel) {
         double[] got = {0};
         double[] want = {0};
+        calls.add(ofKit);
         String gotOutcome = outcome(ofKit, got);
         String wantOutcome = outcome(ofModel, want);
         last = call;
@@ -108,12 +118,16 @@ public final class ModelTest {
         };
     }
 
-    private void sameList(String name) {
-        StringBuilder want = new StringBuilder();
-        for (Model.Entry entry : model.list) {
-            want.append(text(Model.bytes(entry))).append('\n');
+    /** Compares a whole record, on another object after the same calls: that costs this one none. */
+    private void sameRecord(String name, int record) {
+        VariantKit used = kit;
+        kit = new VariantKit();
+        for (Answer call : calls) {
+            outcome(call, new double[1]);
         }
-        Check.due(name + "list after " + last, Check.all(kit), want.toString());
+        String want = text(Model.bytes(model.list.get(record)));
+        Check.due(name + "record " + record + " after " + last, Check.bytes(kit, record), want);
+        kit = used;
     }
 
     private static String text(List<Integer> bytes) {
@@ -135,7 +149,7 @@ public final class ModelTest {
     private void step(String name) {
         int kind = random.nextInt(20);
         if (kind < 5) {
-            drafting(name);
+            drafting(name, 12);
         } else if (kind < 8) {
             changing(name);
         } else if (kind < 10) {
@@ -145,7 +159,7 @@ public final class ModelTest {
         }
     }
 
-    private void drafting(String name) {
+    private void drafting(String name, int mostDetails) {
         // Few places, so that many records share one.
         int place = random.nextBoolean() ? near(Math.min(6, model.reference.length())) : near(160);
         int length = 1 + near(7);
@@ -156,11 +170,11 @@ public final class ModelTest {
             int n = random.nextInt(40) == 0 ? near(10) : 1 + random.nextInt(random.nextBoolean() ? 3 : 8);
             same(name, "allele", () -> kit.allele(bases, n), () -> model.allele(bases, n));
         }
-        for (int i = random.nextInt(12); i > 0; i--) {
+        for (int i = random.nextInt(mostDetails + 1); i > 0; i--) {
             details(name);
         }
         if (random.nextInt(6) > 0) {
-            same(name, "add", kit::add, model::add);
+            same(name, "add", () -> kit.add(), model::add);
         }
     }
 
@@ -247,7 +261,7 @@ public final class ModelTest {
             same(name, "type", none(() -> kit.type(bytes, n)), none(() -> model.type(bytes, n)));
         }
         if (random.nextInt(9) > 0) {
-            same(name, "read", kit::read, model::read);
+            same(name, "read", () -> kit.read(), model::read);
         }
     }
 
@@ -289,7 +303,7 @@ public final class ModelTest {
                 same(name, "mean", () -> kit.mean(begin, end), () -> model.mean(begin, end));
                 break;
             default:
-                same(name, "records", kit::records, model::records);
+                same(name, "records", () -> kit.records(), model::records);
         }
     }
 }

@@ -97,10 +97,11 @@ public final class SplitJoinTest {
         putRich(kit);
         Check.put(kit, 4, 1, "A", "C");
         Check.fill(kit, 1, "C");
-        String before = Check.all(kit);
         Check.illegalState("11: 24 and three alleles", () -> kit.split(22));
         Check.illegalState("11: 24 and four alleles", () -> kit.split(23));
-        Check.due("11: unchanged", Check.all(kit), before);
+        Check.due("11: unchanged", kit.records(), 24);
+        Check.due("11: unchanged", Check.shape(kit, 22), "4 T A C");
+        Check.due("11: unchanged", Check.shape(kit, 23), "5 AC A ACC TT");
         kit.remove(0);
         Check.illegalState("11: 23 and four alleles", () -> kit.split(22));
         Check.due("11: 23 and three alleles", kit.split(21), 2);
